@@ -350,7 +350,17 @@ public final class ObjectMachine {
             return true;
         }
 
-        boolean isMark(int t, char mark) {
+        /** Where a token begins in the text; 0 if there is none. */
+        int start(int t) {
+            return t >= 0 && t < tokens ? from[t] : 0;
+        }
+
+        /** The place behind a token; 0 if there is none. */
+        int stop(int t) {
+            return t >= 0 && t < tokens ? to[t] : 0;
+        }
+
+        boolean isMark(int t, int mark) {
             return t >= 0 && t < tokens && bytes[from[t]] == mark;
         }
 
@@ -414,7 +424,7 @@ public final class ObjectMachine {
         }
 
         /** A name whose first letter is one of the 26 from the letter first on. */
-        private boolean isNamed(int low, int high, char first) {
+        private boolean isNamed(int low, int high, int first) {
             if (low < 0 || high > length || low >= high || high - low > 24) {
                 return false;
             }
@@ -449,21 +459,15 @@ public final class ObjectMachine {
         }
 
         boolean isType(int t) {
-            if (t < 0 || t >= tokens) {
-                return false;
-            }
-            int high = elementEnd(t);
-            return isText(from[t], high, "int") || isNamed(from[t], high, 'A');
+            int low = start(t);
+            int high = elementStop(t);
+            return isText(low, high, "int") || isNamed(low, high, 'A');
         }
 
-        boolean isArray(int t) {
-            return t >= 0 && t < tokens && elementEnd(t) < to[t];
-        }
-
-        /** Where the word of a type ends without its [], if it has one. */
-        int elementEnd(int t) {
-            int high = to[t];
-            return isText(high - 2, high, "[]") && high - 2 >= from[t] ? high - 2 : high;
+        /** The place behind the word of a type without its [], if it has one. */
+        int elementStop(int t) {
+            int high = stop(t);
+            return high - 2 >= start(t) && isText(high - 2, high, "[]") ? high - 2 : high;
         }
 
         boolean isNumber(int t) {
@@ -525,7 +529,7 @@ public final class ObjectMachine {
             return level == 0 && done == rest.length() ? NO_FAULT : text.tokens;
         }
 
-        private boolean takesPart(int t, char part) {
+        private boolean takesPart(int t, int part) {
             if (part == 'P' && !text.isMark(t, ')')) {
                 return text.isType(t);
             }
@@ -578,7 +582,7 @@ public final class ObjectMachine {
 
         private boolean beginsLine(int t) {
             boolean name = text.isName(t);
-            int op = name ? text.numberIn(INSTRUCTIONS, text.from[t], text.to[t]) : NOT_THERE;
+            int op = name ? text.numberIn(INSTRUCTIONS, text.start(t), text.stop(t)) : NOT_THERE;
             boolean isCatch = text.isWord(t, "catch");
             if (text.isMark(t + 1, ':') || op == NOT_THERE && !isCatch) {
                 // Another name may still become a label: then the fault lies behind it.
@@ -856,8 +860,10 @@ public final class ObjectMachine {
             arity[b]++;
         }
 
+        /** The body that runs for an object of a class, of those that replace one another. */
         int bodyOf(int type, int rootBody) {
-            return classes.isClass(type) ? chosen[type * MOST_BODIES + rootBody] : NOT_THERE;
+            int found = classes.isClass(type) ? chosen[type * MOST_BODIES + rootBody] : NOT_THERE;
+            return found == NOT_THERE ? rootBody : found;
         }
 
         int takes(int i) {
@@ -994,7 +1000,8 @@ public final class ObjectMachine {
         }
 
         private int fieldFault(int t, int owner) {
-            if (fieldNamed(owner, text.from[t + 1], text.to[t + 1]) != NOT_THERE || classes.fields == MOST_FIELDS) {
+            int found = fieldNamed(owner, text.start(t + 1), text.stop(t + 1));
+            if (found != NOT_THERE || classes.fields == MOST_FIELDS) {
                 return t + 1;
             }
             int type = typeAt(t + 2);
@@ -1007,7 +1014,7 @@ public final class ObjectMachine {
 
         /** The fault of a body's head: its name, types, result and number of locals. */
         private int headFault(int t, int owner) {
-            int replaced = bodyNamed(owner, text.from[t + 1], text.to[t + 1]);
+            int replaced = bodyNamed(owner, text.start(t + 1), text.stop(t + 1));
             if (program.bodies == MOST_BODIES || replaced != NOT_THERE && !mayReplace(t, owner, replaced)) {
                 return t + 1;
             }
@@ -1042,12 +1049,12 @@ public final class ObjectMachine {
         /** True if the types and results behind two names are the same words. */
         private boolean hasSameHead(int name, int otherName) {
             int gap = otherName - name;
-            for (int t = name + 1; t + 1 < text.tokens && t + gap + 1 < text.tokens; t++) {
-                if (!text.same(t, text.from[t + gap], text.to[t + gap])) {
+            for (int t = name + 1; t < text.tokens; t++) {
+                if (!text.same(t, text.start(t + gap), text.stop(t + gap))) {
                     return false;
                 }
                 if (text.isMark(t, ')')) {
-                    return text.same(t + 1, text.from[t + gap + 1], text.to[t + gap + 1]);
+                    return text.same(t + 1, text.start(t + gap + 1), text.stop(t + gap + 1));
                 }
             }
             return false;
@@ -1063,7 +1070,7 @@ public final class ObjectMachine {
                         beginBody(t);
                         break;
                     case LABEL:
-                        at = labelWord[labelNamed(t)] == t ? NO_FAULT : t;
+                        at = isFirstLabel(t) ? NO_FAULT : t;
                         break;
                     case CATCH:
                         at = catchFault(t);
@@ -1072,7 +1079,11 @@ public final class ObjectMachine {
                         at = endFault(t);
                         break;
                     default:
-                        at = instructionFault(t);
+                        if (!hasRoomFor(text.kind[t])) {
+                            at = t;
+                        } else if (!addsInstruction(t)) {
+                            at = t + 1;
+                        }
                         break;
                 }
                 if (at != NO_FAULT) {
@@ -1098,6 +1109,11 @@ public final class ObjectMachine {
                     stop++;
                 }
             }
+        }
+
+        private boolean isFirstLabel(int t) {
+            int k = labelNamed(t);
+            return k != NOT_THERE && labelWord[k] == t;
         }
 
         private int catchFault(int t) {
@@ -1131,53 +1147,55 @@ public final class ObjectMachine {
             return empty || Code.goesOn(code.op[code.count - 1]) ? t : NO_FAULT;
         }
 
-        private int instructionFault(int t) {
-            int op = text.kind[t];
-            if (code.count == MOST_INSTRUCTIONS || Code.isMaking(op) && code.sites == MOST_SITES) {
-                return t;
-            }
+        private boolean hasRoomFor(int op) {
+            return code.count < MOST_INSTRUCTIONS && (code.sites < MOST_SITES || !Code.isMaking(op));
+        }
+
+        /** Adds the instruction with the word at a token; false if what its first operand names is not there. */
+        private boolean addsInstruction(int word) {
+            int op = text.kind[word];
+            int t = word + 1;
             int i = code.count;
-            code.addInstruction(op, t, body);
+            code.addInstruction(op, word, body);
             switch (op) {
                 case PUSH:
-                    code.a[i] = text.number(t + 1);
-                    return NO_FAULT;
+                    code.a[i] = text.number(t);
+                    return true;
                 case LOAD: case STORE: case INC:
-                    code.a[i] = text.number(t + 1);
-                    code.b[i] = text.number(t + 2);
-                    return code.a[i] < 0 || code.a[i] >= program.locals[body] ? t + 1 : NO_FAULT;
+                    code.a[i] = text.number(t);
+                    code.b[i] = op == INC ? text.number(t + 1) : 0;
+                    return code.a[i] >= 0 && code.a[i] < program.locals[body];
                 case NEW: case CAST: case IS:
-                    code.a[i] = typeAt(t + 1);
-                    return code.a[i] == NOT_THERE ? t + 1 : NO_FAULT;
+                    code.a[i] = typeAt(t);
+                    return code.a[i] != NOT_THERE;
                 case ARRAY:
-                    int element = typeAt(t + 1);
-                    code.a[i] = element == INT ? INT_ARRAY : ARRAYS + element;
-                    return element == NOT_THERE ? t + 1 : NO_FAULT;
+                    code.a[i] = arrayOf(typeAt(t));
+                    return code.a[i] != NOT_THERE;
                 case GET: case PUT: case CALL: case SEND:
-                    return referenceFault(i, t + 1);
+                    return setsReference(i, op, t);
                 default:
-                    code.a[i] = Code.goesToLabel(op) ? placeNamed(t + 1) : 0;
-                    return code.a[i] == NOT_THERE || Code.goesToLabel(op) && code.a[i] >= stop ? t + 1 : NO_FAULT;
+                    code.a[i] = Code.goesToLabel(op) ? placeNamed(t) : 0;
+                    return !Code.goesToLabel(op) || code.a[i] >= 0 && code.a[i] < stop;
             }
         }
 
-        private int referenceFault(int i, int t) {
-            int op = code.op[i];
+        private boolean setsReference(int i, int op, int t) {
             int dot = text.dotOf(t);
-            code.b[i] = classIn(text.from[t], dot);
+            int high = text.stop(t);
+            code.b[i] = classIn(text.start(t), dot);
             if (code.b[i] == NOT_THERE) {
-                return t;
+                return false;
             }
             if (op == GET || op == PUT) {
-                code.a[i] = fieldNamed(code.b[i], dot + 1, text.to[t]);
-                return code.a[i] == NOT_THERE ? t : NO_FAULT;
+                code.a[i] = fieldNamed(code.b[i], dot + 1, high);
+                return code.a[i] != NOT_THERE;
             }
-            int found = bodyNamed(code.b[i], dot + 1, text.to[t]);
+            int found = bodyNamed(code.b[i], dot + 1, high);
             if (found == NOT_THERE || program.isMethod[found] != (op == SEND)) {
-                return t;
+                return false;
             }
             code.a[i] = program.root[found];
-            return NO_FAULT;
+            return true;
         }
 
         int mainFault() {
@@ -1193,7 +1211,7 @@ public final class ObjectMachine {
         }
 
         private int classAt(int t) {
-            return classIn(text.from[t], text.to[t]);
+            return classIn(text.start(t), text.stop(t));
         }
 
         private int classIn(int low, int high) {
@@ -1206,14 +1224,21 @@ public final class ObjectMachine {
         }
 
         private int typeAt(int t) {
-            int low = text.from[t];
-            int high = text.elementEnd(t);
-            boolean array = high < text.to[t];
+            int low = text.start(t);
+            int high = text.elementStop(t);
+            boolean array = high < text.stop(t);
             if (text.isText(low, high, "int")) {
                 return array ? INT_ARRAY : INT;
             }
             int c = classIn(low, high);
-            return array && c != NOT_THERE ? ARRAYS + c : c;
+            return array ? arrayOf(c) : c;
+        }
+
+        private static int arrayOf(int element) {
+            if (element == INT) {
+                return INT_ARRAY;
+            }
+            return element == NOT_THERE ? NOT_THERE : ARRAYS + element;
         }
 
         /** The field of a name that a class has, or one above it; no two of these have the same name. */
@@ -1241,7 +1266,7 @@ public final class ObjectMachine {
         /** The number of the first label with the word of a token. */
         private int labelNamed(int t) {
             for (int k = 0; k < labels; k++) {
-                if (text.same(labelWord[k], text.from[t], text.to[t])) {
+                if (text.same(labelWord[k], text.start(t), text.stop(t))) {
                     return k;
                 }
             }
@@ -1437,9 +1462,7 @@ public final class ObjectMachine {
                     row[top] = row[low];
                     return true;
                 case SWAP:
-                    byte under = row[low];
-                    row[low] = row[low + 1];
-                    row[low + 1] = under;
+                    swap(low, low + 1);
                     return true;
                 case ALOAD:
                     row[low] = (byte) classes.elementOf(row[low]);
@@ -1450,6 +1473,12 @@ public final class ObjectMachine {
                     }
                     return true;
             }
+        }
+
+        private void swap(int low, int high) {
+            byte type = row[low];
+            row[low] = row[high];
+            row[high] = type;
         }
 
         /** Joins the row to what came to an instruction before. */
