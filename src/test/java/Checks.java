@@ -8,7 +8,8 @@ final class Checks {
         if (got != want) {
             wrong++;
             if (wrong <= 40) {
-                System.out.println(what + " answered " + got + ", due is " + want);
+                String told = what.length() > 400 ? what.substring(0, 400) + " .." : what;
+                System.out.println(told + " answered " + got + ", due is " + want);
             }
         }
     }
