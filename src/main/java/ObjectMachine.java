@@ -133,19 +133,30 @@ public final class ObjectMachine {
     private final int[] fed = new int[MOST_BYTES / 4];
     private int fedCount;
     private int fedInAll;
-    private final Text text = new Text();
-    private final Syntax syntax = new Syntax(text);
-    private Program program = new Program();
+    private final Text text;
+    private final Syntax syntax;
+    private final Names names;
+    private final Heights heights;
+    private final TypeFlow flow;
+    private final Runner runner;
+    private Program program;
     /** Where the next text is built, so that a fault leaves the program as it was. */
-    private Program spare = new Program();
+    private Program spare;
     private boolean hasProgram;
-    private final Names names = new Names(text, spare);
-    private final Heights heights = new Heights(spare);
-    private final TypeFlow flow = new TypeFlow(spare);
     private int faultToken = NO_FAULT;
-    private final Runner runner = new Runner(program);
 
     public ObjectMachine() {
+        Text noText = new Text();
+        Program noProgram = new Program();
+        Program unbuilt = new Program();
+        text = noText;
+        syntax = new Syntax(noText);
+        names = new Names(noText, unbuilt);
+        heights = new Heights(unbuilt);
+        flow = new TypeFlow(unbuilt);
+        runner = new Runner(noProgram);
+        program = noProgram;
+        spare = unbuilt;
     }
 
     public int feed(int a, int b, int c, int d, int e) {

@@ -140,8 +140,33 @@ final class Model {
     private int cells;
     private final List<Integer> outs = new ArrayList<>();
 
+    private final StringBuilder fed = new StringBuilder();
+    private int fedInAll;
+
     void give(String t) {
         text = t;
+    }
+
+    int feed(int... words) {
+        if (fed.length() + 20 > 16000 || fedInAll + 20 > 65536) {
+            return -1;
+        }
+        for (int w : words) {
+            for (int shift = 24; shift >= 0; shift -= 8) {
+                fed.append((char) (w >> shift & 255));
+            }
+        }
+        fedInAll += 20;
+        return fed.length();
+    }
+
+    boolean end(int n) {
+        if (n < 0 || n > fed.length()) {
+            return false;
+        }
+        text = fed.substring(0, n);
+        fed.setLength(0);
+        return true;
     }
 
     int load() {
