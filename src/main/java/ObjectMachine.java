@@ -184,26 +184,23 @@ public final class ObjectMachine {
     }
 
     public int load() {
-        int fault = 0;
-        faultToken = NO_FAULT;
-        if (!text.split()) {
-            faultToken = text.tokens;
-            fault = 1;
-        }
-        if (fault == 0) {
+        int fault = 1;
+        faultToken = text.split() ? NO_FAULT : text.tokens;
+        if (faultToken == NO_FAULT) {
+            fault = 2;
             faultToken = syntax.firstFault();
-            fault = faultToken == NO_FAULT ? 0 : 2;
         }
-        if (fault == 0) {
+        if (faultToken == NO_FAULT) {
+            fault = 3;
             faultToken = nameFault();
-            fault = faultToken == NO_FAULT ? 0 : 3;
         }
-        if (fault == 0) {
+        if (faultToken == NO_FAULT) {
+            fault = 4;
             faultToken = typeFault();
-            fault = faultToken == NO_FAULT ? 0 : 4;
         }
         text.useUp();
-        if (fault == 0) {
+        if (faultToken == NO_FAULT) {
+            fault = 0;
             takeSpare();
         }
         return fault;
@@ -545,6 +542,7 @@ public final class ObjectMachine {
                 return text.isType(t);
             }
             done++;
+            level += part == '{' ? 1 : 0;
             switch (part) {
                 case 'P': return true;
                 case 'n': return text.isName(t);
@@ -556,9 +554,6 @@ public final class ObjectMachine {
                 case 'E': return text.isClassName(t) || text.isWord(t, "int");
                 case 'Y': return text.isType(t) && !text.isWord(t, "int");
                 case 'F': return text.isReference(t);
-                case '{':
-                    level++;
-                    return text.isMark(t, '{');
                 default: return text.isMark(t, part);
             }
         }
@@ -1276,8 +1271,10 @@ public final class ObjectMachine {
 
         /** The number of the first label with the word of a token. */
         private int labelNamed(int t) {
+            int low = text.start(t);
+            int high = text.stop(t);
             for (int k = 0; k < labels; k++) {
-                if (text.same(labelWord[k], text.start(t), text.stop(t))) {
+                if (text.same(labelWord[k], low, high)) {
                     return k;
                 }
             }
@@ -1880,7 +1877,7 @@ public final class ObjectMachine {
                     break;
                 case READ:
                     pushInt(inputAt < inputCount ? inputs[inputAt] : 0);
-                    inputAt += inputAt < inputCount ? 1 : 0;
+                    inputAt++;
                     break;
                 case WRITE:
                     write(pop());

@@ -10,6 +10,7 @@ public final class FeedingTest {
         feedsBytesInOrder();
         ends();
         usesTextsUp();
+        takesWholeTexts();
         takesInput();
         checks.finish("FeedingTest");
     }
@@ -116,6 +117,22 @@ public final class FeedingTest {
         checks.due("faultAt", x.faultAt(), 2);
         checks.due("second load", x.load(), 3);
         checks.due("the program stays", x.run(5), 0);
+    }
+
+    private static void takesWholeTexts() {
+        // All bytes that may be fed count, up to the last one.
+        ObjectMachine x = new ObjectMachine();
+        Checks.give(x, " ".repeat(16000 - EMPTY_MAIN.length()) + EMPTY_MAIN);
+        checks.due("load", x.load(), 0);
+        Checks.give(x, EMPTY_MAIN + " ".repeat(15999 - EMPTY_MAIN.length()) + "}");
+        checks.due("load", x.load(), 2);
+        checks.due("faultAt", x.faultAt(), Checks.tokensOf(EMPTY_MAIN));
+        Checks.give(x, "(".repeat(15999) + "\u0000");
+        checks.due("load", x.load(), 1);
+        checks.due("faultAt", x.faultAt(), 15999);
+        Checks.give(x, "class Main of Object{static main()none 0{a:" + "b:".repeat(7970) + "}}");
+        checks.due("load", x.load(), 3);
+        checks.due("faultAt", x.faultAt(), 16);
     }
 
     private static void takesInput() {

@@ -29,6 +29,7 @@ public final class RunTest {
         depths();
         writing();
         runsAreFresh();
+        programsAreFresh();
         checks.finish("RunTest");
     }
 
@@ -119,6 +120,11 @@ public final class RunTest {
         ran(1, "new A new A same" + end, 0, 0);
         ran(1, "new A null other" + end, 0, 1);
         ran(1, "push 0 array int push 0 array int same" + end, 0, 0);
+        // What lies under the values that are taken stays.
+        for (String test : "null isnull,new A notnull,null null same,new A null other,push 1 push 1 eq".split(",")) {
+            ran(1, "push 7 push 8 " + test + " y back y : write write back", 0, 8, 7);
+        }
+        ran(1, "push 7 push 8 goto y y : write write back", 0, 8, 7);
     }
 
     private static void locals() {
@@ -127,6 +133,8 @@ public final class RunTest {
         ran(2, "push -2147483648 store 1 inc 1 -2147483648 load 1 write back", 0, 0);
         ran(2, "push 1 push 2 swap write write back", 0, 1, 2);
         ran(2, "push 1 push 2 dup write pop write back", 0, 2, 1);
+        ran(2, "push 1 new A swap write get A.n write back", 0, 1, 0);
+        ran(2, "new A push 1 swap get A.n write write back", 0, 0, 1);
         ran(12, "push 1 store 0 push 2 store 11 load 0 write load 11 write back", 0, 1, 2);
         ran(2, "push 1 store 0 null store 0 new A store 0 load 0 get A.n write back", 0, 0);
     }
@@ -444,6 +452,40 @@ public final class RunTest {
         checks.due("out(5)", x.out(5), 0);
         checks.due("made(2)", x.made(2), -1);
         checks.due("made(-1)", x.made(-1), -1);
+    }
+
+    private static void programsAreFresh() {
+        // Programs one behind the other on one object, each of them twice, as if each were the first.
+        String guard = "a : null length pop b : back c : pop push 1 write back catch a b c Error ";
+        String[] texts = {
+            Checks.main(0, "call Main.s back", "static s ( ) none 0 { " + guard + "} static t ( ) none 0 { back }", ""),
+            Checks.main(0, guard + "catch a b c NullError catch a b c CastError", "static s ( ) none 0 { " + guard + "}", ""),
+            Checks.main(0, "back", "", ""),
+            Checks.main(0, "read read eq a new C goto b a : new D b : get A.n write back", "",
+                "class A of Object { field n int } class B of A { } class C of B { } class D of A { } "),
+            Checks.main(0, "read read eq a new C goto b a : new D b : get B.n write back", "",
+                "class A of Object { } class B of A { field n int } class C of B { } class D of B { } "),
+            Checks.main(0, "new C send A.m write new B send A.m write back", "",
+                "class A of Object { method m ( ) int 1 { push 1 give } } class B of A { } "
+                + "class C of A { method m ( ) int 1 { push 3 give } } "),
+            Checks.main(0, "new C send A.m write new B send A.m write back", "",
+                "class A of Object { method m ( ) int 1 { push 1 give } } class B of A { method m ( ) int 1 { push 2 give } } "
+                + "class C of B { } "),
+        };
+        int[][] outs = {{1}, {1}, {}, {0}, {0}, {3, 1}, {2, 2}};
+        ObjectMachine x = new ObjectMachine();
+        for (int k = 0; k < 4 * texts.length; k++) {
+            // Steps of three and of one, so that each follows several others in the same rows.
+            int at = k < 2 * texts.length ? 3 * k % texts.length : k % texts.length;
+            Checks.give(x, texts[at]);
+            checks.due("load " + at, x.load(), 0);
+            checks.due("run " + at, x.run(100), 0);
+            checks.due("written " + at, x.written(), outs[at].length);
+            for (int n = 0; n < outs[at].length; n++) {
+                checks.due("out " + at, x.out(n), outs[at][n]);
+            }
+        }
+        checks.due("strays", x.strays(), 0);
     }
 
     private static void runsAreFresh() {
