@@ -43,7 +43,9 @@ public final class CallsTest {
                 }
                 break;
             case 1:
-                all.setCharAt(random.nextInt(all.length()), (char) random.nextInt(256));
+                if (all.length() > 0) {
+                    all.setCharAt(random.nextInt(all.length()), (char) random.nextInt(256));
+                }
                 break;
             default: break;
         }
