@@ -8,7 +8,7 @@ final class Checks {
         if (got != want) {
             wrong++;
             if (wrong <= 40) {
-                String told = what.length() > 400 ? what.substring(0, 400) + " .." : what;
+                String told = what.length() > 500 ? what.substring(0, 200) + " .. " + what.substring(what.length() - 300) : what;
                 System.out.println(told + " answered " + got + ", due is " + want);
             }
         }
@@ -18,10 +18,18 @@ final class Checks {
         due(what, got ? 1 : 0, want ? 1 : 0);
     }
 
+    boolean hold() {
+        return looked > 0 && wrong == 0;
+    }
+
+    int looked() {
+        return looked;
+    }
+
     /** Ends the program: 1 if an answer was wrong. */
     void finish(String name) {
         System.out.println(name + ": " + looked + " answers, " + wrong + " wrong");
-        if (wrong > 0 || looked == 0) {
+        if (!hold()) {
             System.exit(1);
         }
     }
@@ -55,14 +63,27 @@ final class Checks {
     /** Loads a text, whose fault is due at the token behind the sign @; without that sign none is due. */
     void fault(int want, String marked) {
         int at = marked.indexOf('@');
+        loads(marked.replace("@", ""), want, at < 0 ? -1 : tokensOf(marked.substring(0, at)));
+    }
+
+    void loads(String text, int fault, int at) {
         ObjectMachine x = new ObjectMachine();
-        give(x, marked.replace("@", ""));
-        due("load of " + marked, x.load(), want);
-        due("faultAt of " + marked, x.faultAt(), at < 0 ? -1 : tokensOf(marked.substring(0, at)));
+        give(x, text);
+        due("load of " + text, x.load(), fault);
+        due("faultAt of " + text, x.faultAt(), at);
     }
 
     void right(String text) {
         fault(0, text);
+    }
+
+    /** A text so many times, with the number of each for the sign #. */
+    static String times(int n, String text) {
+        StringBuilder all = new StringBuilder();
+        for (int k = 0; k < n; k++) {
+            all.append(text.replace("#", "" + k));
+        }
+        return all.toString();
     }
 
     /** A program whose main has these locals and lines, with other members of Main and other classes. */

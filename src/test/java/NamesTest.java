@@ -21,14 +21,6 @@ public final class NamesTest {
         checks.finish("NamesTest");
     }
 
-    private static String times(int n, String text) {
-        StringBuilder all = new StringBuilder();
-        for (int k = 0; k < n; k++) {
-            all.append(text.replace("#", "" + k));
-        }
-        return all.toString();
-    }
-
     private static void classes() {
         for (String known : "Object Error NullError IndexError SizeError DivideError CastError StoreError".split(" ")) {
             checks.fault(3, "class @" + known + " of Object { } " + MAIN);
@@ -38,8 +30,8 @@ public final class NamesTest {
         checks.fault(3, "class A of @A { } " + MAIN);
         checks.fault(3, "class A of @B { } class B of Object { } " + MAIN);
         checks.right("class B of Object { } class A of B { } " + MAIN);
-        checks.right(times(23, "class A# of Object { } ") + MAIN);
-        checks.fault(3, times(24, "class A# of Object { } ") + "class @Main of Nothing { static main ( ) none 0 { back } }");
+        checks.right(Checks.times(23, "class A# of Object { } ") + MAIN);
+        checks.fault(3, Checks.times(24, "class A# of Object { } ") + "class @Main of Nothing { static main ( ) none 0 { back } }");
         checks.fault(3, "class A of Object { } class @A of Nothing { }");
         checks.right("class Objec of Object { } class Objects of Objec { } class NullErro of Objects { } " + MAIN);
         // A chain of all classes.
@@ -62,10 +54,10 @@ public final class NamesTest {
         checks.fault(3, "class A of Object { field a @Nothing } " + MAIN);
         checks.fault(3, "class A of Object { field a @Nothing[] } " + MAIN);
         checks.right("class A of Object { field a B field b B[] field c Main[] } class B of A { } " + MAIN);
-        checks.right("class A of Object { " + times(48, "field a# int ") + " } " + MAIN);
-        checks.fault(3, "class A of Object { " + times(48, "field a# int ") + " field @b int } " + MAIN);
-        checks.fault(3, "class A of Object { " + times(30, "field a# int ") + "} class B of Object { "
-            + times(18, "field a# int ") + "field @b Nothing } " + MAIN);
+        checks.right("class A of Object { " + Checks.times(48, "field a# int ") + " } " + MAIN);
+        checks.fault(3, "class A of Object { " + Checks.times(48, "field a# int ") + " field @b int } " + MAIN);
+        checks.fault(3, "class A of Object { " + Checks.times(30, "field a# int ") + "} class B of Object { "
+            + Checks.times(18, "field a# int ") + "field @b Nothing } " + MAIN);
     }
 
     private static void bodies() {
@@ -76,10 +68,10 @@ public final class NamesTest {
         checks.fault(3, "class A of Object { " + m + s.replace("a (", "@a (") + "} " + MAIN);
         checks.fault(3, "class A of Object { " + m + m.replace("a (", "@a (") + "} " + MAIN);
         checks.right("class A of Object { " + m + "} class B of Object { " + s + "} " + MAIN);
-        checks.right("class A of Object { " + times(47, "static a# ( ) none 0 { back } ") + "} " + MAIN);
-        checks.fault(3, "class A of Object { " + times(48, "method a# ( ) none 1 { back } ")
+        checks.right("class A of Object { " + Checks.times(47, "static a# ( ) none 0 { back } ") + "} " + MAIN);
+        checks.fault(3, "class A of Object { " + Checks.times(48, "method a# ( ) none 1 { back } ")
             + "} " + MAIN.replace("main (", "@main ("));
-        checks.fault(3, "class A of Object { " + times(48, "method a# ( ) none 1 { back } ")
+        checks.fault(3, "class A of Object { " + Checks.times(48, "method a# ( ) none 1 { back } ")
             + "static @b ( Nothing ) none 0 { back } } " + MAIN);
     }
 
@@ -115,12 +107,12 @@ public final class NamesTest {
         checks.fault(3, Checks.main(0, "back", "static a ( ) none @13 { back }", ""));
         checks.fault(3, Checks.main(0, "back", "static a ( ) none @-2147483648 { back }", ""));
         checks.right(Checks.main(0, "back", "static a ( ) none 12 { back }", ""));
-        checks.right(Checks.main(0, "back", "static a ( " + times(12, "int ") + ") none 12 { back }", ""));
-        checks.fault(3, Checks.main(0, "back", "static a ( " + times(13, "int ") + ") none @12 { back }", ""));
-        checks.fault(3, Checks.main(0, "back", "static a ( " + times(13, "int ") + ") none @13 { back }", ""));
-        checks.fault(3, Checks.main(0, "back", "static a ( " + times(50, "int ") + "@No ) none 12 { back }", ""));
-        checks.right(Checks.main(0, "back", "method a ( " + times(11, "int ") + ") none 12 { back }", ""));
-        checks.fault(3, Checks.main(0, "back", "method a ( " + times(12, "int ") + ") none @12 { back }", ""));
+        checks.right(Checks.main(0, "back", "static a ( " + Checks.times(12, "int ") + ") none 12 { back }", ""));
+        checks.fault(3, Checks.main(0, "back", "static a ( " + Checks.times(13, "int ") + ") none @12 { back }", ""));
+        checks.fault(3, Checks.main(0, "back", "static a ( " + Checks.times(13, "int ") + ") none @13 { back }", ""));
+        checks.fault(3, Checks.main(0, "back", "static a ( " + Checks.times(50, "int ") + "@No ) none 12 { back }", ""));
+        checks.right(Checks.main(0, "back", "method a ( " + Checks.times(11, "int ") + ") none 12 { back }", ""));
+        checks.fault(3, Checks.main(0, "back", "method a ( " + Checks.times(12, "int ") + ") none @12 { back }", ""));
     }
 
     private static void labels() {
@@ -135,7 +127,7 @@ public final class NamesTest {
             checks.fault(3, Checks.main(0, "a : " + op + " @b back"));
             checks.fault(3, Checks.main(0, "a : " + op + " @b back b :"));
         }
-        checks.right(Checks.main(0, times(300, "a# : ") + "goto a17 " + times(300, "b# : ") + "back"));
+        checks.right(Checks.main(0, Checks.times(300, "a# : ") + "goto a17 " + Checks.times(300, "b# : ") + "back"));
     }
 
     private static void catches() {
@@ -158,22 +150,22 @@ public final class NamesTest {
         // A catch whose labels lie behind one another with an instruction between, in another order of the text.
         checks.fault(3, Checks.main(0, "a : b : push 0 pop catch a @b c Error c : back"));
         String many = "a : push 0 write b : back c : pop back ";
-        checks.right(Checks.main(0, many + times(64, "catch a b c Error ")));
-        checks.fault(3, Checks.main(0, many + times(64, "catch a b c Error ") + "@catch x x x X"));
-        checks.fault(3, Checks.main(0, many + times(63, "catch a b c Error "), "static s ( ) none 0 { " + many
+        checks.right(Checks.main(0, many + Checks.times(64, "catch a b c Error ")));
+        checks.fault(3, Checks.main(0, many + Checks.times(64, "catch a b c Error ") + "@catch x x x X"));
+        checks.fault(3, Checks.main(0, many + Checks.times(63, "catch a b c Error "), "static s ( ) none 0 { " + many
             + "catch a b c Error @catch a b c Error }", ""));
     }
 
     private static void limitsOfLines() {
-        checks.right(Checks.main(0, times(511, "read pop ") + "goto a a : back"));
-        checks.fault(3, Checks.main(0, times(512, "read pop ") + "@back"));
-        checks.fault(3, Checks.main(0, times(500, "read pop ") + "back", "static s ( ) none 0 { " + times(11, "read pop ")
+        checks.right(Checks.main(0, Checks.times(511, "read pop ") + "goto a a : back"));
+        checks.fault(3, Checks.main(0, Checks.times(512, "read pop ") + "@back"));
+        checks.fault(3, Checks.main(0, Checks.times(500, "read pop ") + "back", "static s ( ) none 0 { " + Checks.times(11, "read pop ")
             + "goto a a : @load 50 back }", ""));
-        checks.right(Checks.main(0, times(24, "new Main pop push 0 array int pop ") + "back"));
-        checks.fault(3, Checks.main(0, times(24, "new Main pop push 0 array int pop ") + "@new Main pop back"));
-        checks.fault(3, Checks.main(0, times(24, "new Main pop push 0 array int pop ") + "push 0 @array No pop back"));
-        checks.fault(3, Checks.main(0, times(24, "new Main pop ") + "back", "static s ( ) none 0 { "
-            + times(24, "push 0 array int pop ") + "read pop @new No back }", ""));
+        checks.right(Checks.main(0, Checks.times(24, "new Main pop push 0 array int pop ") + "back"));
+        checks.fault(3, Checks.main(0, Checks.times(24, "new Main pop push 0 array int pop ") + "@new Main pop back"));
+        checks.fault(3, Checks.main(0, Checks.times(24, "new Main pop push 0 array int pop ") + "push 0 @array No pop back"));
+        checks.fault(3, Checks.main(0, Checks.times(24, "new Main pop ") + "back", "static s ( ) none 0 { "
+            + Checks.times(24, "push 0 array int pop ") + "read pop @new No back }", ""));
     }
 
     private static void operands() {
