@@ -354,8 +354,8 @@ public final class CallsSentencesTest {
 
     private static void latestFault(Checks c) {
         ObjectMachine x = new ObjectMachine();
-        String[] texts = {"( ( \1", "class }", "class A of B { }", Checks.main(0, "pop back"), MAIN, "}"};
-        int[] due = {2, 1, 3, 12, -1, 0};
+        String[] texts = {"( ( \1", "class }", "class A of B { }", Checks.main(0, "pop back"), "( \1", "", MAIN, "}"};
+        int[] due = {2, 1, 3, 12, 1, 0, -1, 0};
         for (int k = 0; k < texts.length; k++) {
             Checks.give(x, texts[k]);
             c.due("before the load", x.faultAt(), k == 0 ? -1 : due[k - 1]);

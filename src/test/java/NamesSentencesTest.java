@@ -116,6 +116,7 @@ public final class NamesSentencesTest {
         c.right(classes + MAIN);
         c.due("classes", Checks.loaded(classes + MAIN).size(4), 24);
         c.right("class A0 of StoreError { } class A1 of A0 { } class A2 of A1 { } " + classes.substring(classes.indexOf("class A3 ")) + MAIN);
+        c.right(MAIN + classes);
         c.fault(3, classes + MAIN + " class @B of Object { }");
         // It is the number that counts, before its SUPER is looked at.
         c.fault(3, classes + MAIN + " class @B of No { }");

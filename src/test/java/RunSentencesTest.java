@@ -438,8 +438,8 @@ public final class RunSentencesTest {
         // The inner range has no right before the outer one: the text's order counts.
         ran(c, "x : push 1 pop " + lines.replace("write b :", "b : write y :") + "catch x y d Error catch a b c NullError", 0, 2);
         // The body that runs, before those that called it.
-        c.ran(Checks.main(0, "a : call Main.s b : back c : pop push 1 write back catch a b c Error",
-            "static s ( ) none 0 { a : null throw b : c : pop push 2 write back catch a b c Error }", ""), 0, 2);
+        c.ran(Checks.main(0, "a : call Main.s b : push 3 write back c : pop push 1 write back catch a b c Error",
+            "static s ( ) none 0 { a : null throw b : c : pop push 2 write back catch a b c Error }", ""), 0, 2, 3);
     }
 
     private static void fromTo(Checks c) {
@@ -574,6 +574,8 @@ public final class RunSentencesTest {
         c.due("place", x.place(), MAIN + 8);
         c.due("steps, with the one that was begun", x.steps(), 2 + 2000 * 6 + 1);
         ObjectMachine y = ran(c, "push 1 write push 12001 array int pop push 2 write back", 3, 1);
+        c.due("made(0)", y.made(0), 0);
+        c.due("made(1)", y.made(1), 0);
         c.due("place", y.place(), MAIN + 3);
         c.due("steps", y.steps(), 4);
         c.due("thrown", y.thrown(), -1);

@@ -316,6 +316,8 @@ public final class TextSentencesTest {
             c.fault(2, Checks.main(0, "back", "field @" + word + " int", ""));
         }
         c.fault(2, Checks.main(0, "back", "field a @}", ""));
+        c.fault(2, Checks.main(0, "back", "field a @none", ""));
+        c.fault(2, Checks.main(0, "back", "field a @b", ""));
         c.fault(2, Checks.main(0, "back", "field a int @int", ""));
         c.fault(2, Checks.main(0, "back", "@fields a int", ""));
         c.fault(2, Checks.main(0, "back", "@Field a int", ""));

@@ -283,6 +283,7 @@ public final class TypesSentencesTest {
         });
         s.says("all below UNSET.", c -> {
             for (String one : ALL_KINDS) {
+                right(c, one + " pop " + one + " dup swap store 0 pop back");
                 joins(c, one, one.equals("push 1") ? "null" : "push 1", "pop", "@write");
                 joins(c, one, one.equals("push 1") ? "null" : "push 1", "store 0", "store 0 @load 0 pop");
             }
@@ -541,6 +542,7 @@ public final class TypesSentencesTest {
         // Up to before TO: what is stored last does not come there.
         right(c, "push 1 store 0 a : null b : store 0 back c : pop load 0 write back catch a b c Error");
         fault(c, "push 1 store 0 a : null store 0 push 1 pop b : back c : pop @load 0 write back catch a b c Error");
+        right(c, "push 1 store 0 null a : store 0 b : back c : pop load 0 write back catch a b c Error");
         // Each of them: one in the middle is enough.
         fault(c, "push 1 store 0 a : null store 0 push 1 store 0 b : back c : pop @load 0 write back catch a b c Error");
         // None of them come to: nothing comes to the handler.
@@ -654,7 +656,8 @@ public final class TypesSentencesTest {
         fault(c, "goto x c : pop pop back x : a : @pop b : back catch a b c Error");
         fault(c, "goto x c : pop pop back x : " + EIGHT + "a : @dup b : back catch a b c Error");
         fault(c, "goto x c : pop @pop back x : push 1 a : pop b : back catch a b c Error");
-        // One of two heights may go on all the same.
+        // One of two heights may go on all the same, and the other one not.
+        fault(c, "goto x y : back x : push 1 push 2 push 3 push 4 push 5 push 6 read read eq a push 7 goto b a : push 7 push 8 b : @dup goto y");
         fault(c, "goto x y : @pop pop back x : read read eq a push 1 a : pop goto y");
         fault(c, "goto x c : pop @pop back x : read read eq a push 1 a : pop b : back catch a b c Error");
     }
@@ -811,6 +814,7 @@ public final class TypesSentencesTest {
         right(c, "goto a load 0 null add pop a : back");
         right(c, "null throw push 1 give");
         right(c, "back a : pop pop b : back c : load 0 write back catch a b c Error");
+        right(c, "null push 0 aload load 0 add write back");
         fault(c, "read read eq a back a : @load 0 pop back");
         c.right(Checks.main(0, "back", "static s ( ) int 0 { push 1 give back } static t ( ) none 0 { back push 1 give }", ""));
         // A body that nothing calls is come to.
