@@ -1,3 +1,4 @@
+import java.lang.reflect.Array;
 import java.lang.reflect.Constructor;
 import java.lang.reflect.Field;
 import java.lang.reflect.Method;
@@ -5,7 +6,9 @@ import java.lang.reflect.Modifier;
 import java.nio.file.Files;
 import java.nio.file.Path;
 import java.util.Arrays;
+import java.util.IdentityHashMap;
 import java.util.List;
+import java.util.Map;
 import java.util.Set;
 import java.util.TreeSet;
 
@@ -20,6 +23,7 @@ public final class LanguageTest {
         face();
         insideClasses();
         words();
+        room();
         checks.finish("LanguageTest");
     }
 
@@ -86,5 +90,34 @@ public final class LanguageTest {
                 checks.due(line, line.equals("import java.util.Arrays;"), true);
             }
         }
+    }
+
+    /** A run of calls has room for some 7.3 million fields and elements: forty machines, after their calls too, take less. */
+    private static void room() throws Exception {
+        ObjectMachine x = new ObjectMachine();
+        long before = cellsOf(x, new IdentityHashMap<>());
+        Checks.give(x, Checks.main(0, "a : push 300 array int pop new Main pop b : goto a c : pop back catch a b c Error"));
+        x.load();
+        x.run(20000);
+        checks.due("cells of a machine", before > 0 && before <= 7300000 / 40, true);
+        checks.due("cells of a machine after a run", cellsOf(x, new IdentityHashMap<>()), before);
+    }
+
+    /** The fields and elements of an object of the program and of all that it holds, each counted once. */
+    private static long cellsOf(Object o, Map<Object, Boolean> seen) throws Exception {
+        if (o == null || o instanceof String || seen.put(o, true) != null) {
+            return 0;
+        }
+        if (o.getClass().isArray()) {
+            return Array.getLength(o);
+        }
+        long cells = 0;
+        for (Field f : o.getClass().getDeclaredFields()) {
+            if (!Modifier.isStatic(f.getModifiers())) {
+                f.setAccessible(true);
+                cells += 1 + (f.getType().isPrimitive() ? 0 : cellsOf(f.get(o), seen));
+            }
+        }
+        return cells;
     }
 }
