@@ -295,6 +295,9 @@ public final class CallsSentencesTest {
         String[] texts = {SIZED, MAIN, MAIN + " class A of Object { field a int static s ( ) none 0 { back } }",
             "class A of Object { static s ( ) none 0 {", "; } \n class A of Object { }", "class A of Object { field a No }",
             Checks.main(1, "null store 0 load 0 write back"), Checks.main(1, "push 1 load 0 pop back"),
+            // The second has a field where the first has main: what the first left must not count.
+            "class Main of Object { static s ( ) none 0 { back } static main ( ) none 0 { back } }",
+            "class Main of Object { static s ( ) none 0 { back } field main int }",
             Checks.main(0, "call Main.s back", "static s ( ) none 0 { " + guard + "} static t ( ) none 0 { back }", ""),
             Checks.main(0, guard + "catch a b c NullError", "static s ( ) none 0 { " + guard + "} method m ( int int ) int 12 { load 1 give }", ""),
             Checks.main(0, "read read eq a new C goto b a : new D b : get A.n write back", "",
