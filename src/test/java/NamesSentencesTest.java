@@ -246,6 +246,10 @@ public final class NamesSentencesTest {
         c.fault(3, Checks.main(0, "a : b : push 1 pop @a : back"));
         c.fault(3, Checks.main(0, "a : back @a :"));
         c.fault(3, Checks.main(0, "a : goto a @a : back"));
+        // A line before the second one means the first one, though the second one would be a fault of that line.
+        c.fault(3, Checks.main(0, "a : goto a @a :"));
+        c.fault(3, Checks.main(0, "a : push 0 write b : back c : pop back catch a b c Error @a :"));
+        c.fault(3, Checks.main(0, "a : push 0 write b : back c : pop back catch a b c Error @c :"));
         c.right(Checks.main(0, "a : aa : a_ : aA : back"));
         c.right(Checks.main(0, "a : back", "static s ( ) none 0 { a : goto a } method m ( ) none 1 { a : back }", ""));
     }
